@@ -1,0 +1,219 @@
+/** Promises 13 to 15: undo, keep, restore. */
+public final class HistoryTest {
+    private static final Answers A = new Answers("HistoryTest");
+
+    public static void main(String[] args) {
+        keepsFourStates();
+        undoesEveryAct();
+        recordsNoErrors();
+        restoresWhatWas();
+        restoringIsAnAct();
+        theSnapshotIsNoPartOfTheState();
+        bringsBackAllOfAState();
+        A.end();
+    }
+
+    private static void keepsFourStates() {
+        AppendZones x = new AppendZones();
+        A.due("nothing to undo", x.undo(), -5);
+        for (int i = 1; i <= 9; i++) {
+            x.pass(1);
+            A.due("states", x.count(14), Math.min(i, 4));
+        }
+        for (int left = 3; left >= 0; left--) {
+            A.due("undo()", x.undo(), left);
+            A.due("the tick", x.count(0), 5 + left);
+            A.due("states", x.count(14), left);
+        }
+        A.due("no more", x.undo(), -5);
+        A.due("the tick", x.count(0), 5);
+        x.pass(10);
+        x.pass(10);
+        A.due("undo()", x.undo(), 1);
+        A.due("the tick", x.count(0), 15);
+        x.pass(7);
+        A.due("undo()", x.undo(), 1);
+        A.due("undo()", x.undo(), 0);
+        A.due("the tick", x.count(0), 5);
+    }
+
+    private static AppendZones withATold() {
+        AppendZones x = new AppendZones();
+        x.append(0, 0, 7);
+        x.pass(9);
+        return x;
+    }
+
+    private static void undoesEveryAct() {
+        AppendZones x = withATold();
+        x.set(0, 5);
+        x.undo();
+        A.due("set", x.count(1), 2);
+        x.setZone(1, false, 3);
+        x.undo();
+        A.due("setZone, the capacity", x.zone(1, 1), 8);
+        x.setZone(0, true, 9);
+        x.undo();
+        A.due("setZone, the delay", x.zone(0, 2), 2);
+        x.setWindow(2, 8);
+        x.undo();
+        A.due("setWindow", x.writer(2, 0), 3);
+        x.append(0, 0, 8);
+        x.undo();
+        A.due("append", x.count(7), 1);
+        x.reset(0);
+        x.undo();
+        A.due("reset, the block", x.read(0, 0), 7);
+        A.due("reset, the generation", x.zone(0, 4), 0);
+        x.finish(0);
+        x.undo();
+        A.due("finish", x.zone(0, 0), 1);
+        x.close(0);
+        x.undo();
+        A.due("close", x.zone(0, 0), 1);
+        x.append(1, 1, 9);
+        x.pass(9);
+        A.due("undo() of pass", x.undo(), 3);
+        A.due("pass, the tick", x.count(0), 9);
+        A.due("pass, the append", x.appended(1, 3), 0);
+        A.due("pass, the log", x.told(1), -5);
+        A.due("pass, the zone", x.zone(1, 0), 0);
+        A.due("the same again", x.pass(9), 1);
+    }
+
+    private static void recordsNoErrors() {
+        AppendZones x = new AppendZones();
+        x.set(0, 2);
+        x.set(0, 9);
+        x.setZone(0, true, 2);
+        x.setZone(8, true, 2);
+        x.setWindow(0, 3);
+        x.append(4, 0, 0);
+        x.reset(0);
+        x.finish(0);
+        x.close(0);
+        x.pass(0);
+        x.follow();
+        x.restore();
+        x.undo();
+        A.due("none of them", x.count(14), 0);
+        x.keep();
+        x.type('r');
+        x.clearText();
+        x.read(0, 0);
+        x.toldIn(0);
+        x.would(0, 0);
+        A.due("nor of these, which are no acts", x.count(14), 0);
+        x.pass(1);
+        x.pass(2);
+        x.pass(3);
+        x.pass(4);
+        x.append(0, 0, 100);
+        x.pass(100);
+        A.due("an error drops no state", x.undo() + x.undo() + x.undo() + x.undo(), 6);
+        A.due("the tick", x.count(0), 0);
+    }
+
+    private static void restoresWhatWas() {
+        AppendZones x = withATold();
+        A.due("no snapshot", x.restore(), -5);
+        A.due("keep()", x.keep(), 9);
+        x.reset(0);
+        x.pass(30);
+        A.due("restore()", x.restore(), 9);
+        A.due("the block", x.read(0, 0), 7);
+        A.due("the tick", x.count(0), 9);
+        x.pass(1);
+        A.due("it stays", x.restore(), 9);
+        x.pass(5);
+        A.due("another takes its place", x.keep(), 14);
+        x.pass(5);
+        A.due("restore()", x.restore(), 14);
+        A.due("restoring what is", x.restore(), 14);
+    }
+
+    private static void restoringIsAnAct() {
+        AppendZones x = new AppendZones();
+        x.keep();
+        x.pass(3);
+        A.due("one state", x.count(14), 1);
+        A.due("restore()", x.restore(), 0);
+        A.due("two states", x.count(14), 2);
+        A.due("undo()", x.undo(), 1);
+        A.due("the tick", x.count(0), 3);
+        A.due("undo()", x.undo(), 0);
+        A.due("the tick", x.count(0), 0);
+        x.restore();
+        A.due("though nothing changed", x.count(14), 1);
+    }
+
+    private static void theSnapshotIsNoPartOfTheState() {
+        AppendZones x = new AppendZones();
+        x.pass(1);
+        x.keep();
+        x.undo();
+        A.due("undo leaves the snapshot", x.restore(), 1);
+        x.pass(1);
+        x.keep();
+        x.undo();
+        x.undo();
+        A.due("undo leaves the snapshot", x.restore(), 2);
+    }
+
+    private static void bringsBackAllOfAState() {
+        AppendZones x = new AppendZones();
+        x.set(3, 1);
+        x.set(0, 1);
+        x.append(0, 0, 1);
+        x.append(1, 3, 2);
+        x.append(1, 0, 3);
+        x.append(2, 5, 4);
+        x.pass(5);
+        int before = sum(x);
+        x.keep();
+        x.pass(50);
+        x.reset(3);
+        x.set(2, 4);
+        x.setWindow(3, 1);
+        x.setZone(7, true, 9);
+        x.setZone(7, false, 1);
+        x.append(3, 2, 9);
+        x.pass(50);
+        A.dueTrue("much has changed", sum(x) != before);
+        x.restore();
+        A.due("all is as it was", sum(x), before);
+        x.pass(50);
+        x.undo();
+        A.due("all is as it was", sum(x), before);
+        x.pass(1);
+        x.pass(1);
+        AppendZones same = new AppendZones();
+        same.set(3, 1);
+        same.set(0, 1);
+        same.append(0, 0, 1);
+        same.append(1, 3, 2);
+        same.append(1, 0, 3);
+        same.append(2, 5, 4);
+        same.pass(7);
+        A.due("and goes on as it would have", sum(x), sum(same));
+    }
+
+    private static int sum(AppendZones x) {
+        int sum = 0;
+        for (int z = 0; z < 8; z++) {
+            for (int what = 0; what < 9; what++) sum = sum * 31 + x.zone(z, what);
+            for (int p = 0; p < 16; p++) sum = sum * 31 + x.read(z, p);
+            for (int what = 0; what < 2; what++) sum = sum * 31 + x.would(z, what);
+        }
+        for (int w = 0; w < 4; w++) {
+            for (int what = 0; what < 6; what++) sum = sum * 31 + x.writer(w, what);
+        }
+        for (int a = 0; a < 8; a++) {
+            for (int what = 0; what < 8; what++) sum = sum * 31 + x.appended(a, what);
+            sum = sum * 31 + x.told(a);
+            sum = sum * 31 + x.toldIn(a);
+        }
+        for (int what = 0; what < 14; what++) sum = sum * 31 + x.count(what);
+        return sum;
+    }
+}
