@@ -10,6 +10,8 @@ public final class HistoryTest {
         restoringIsAnAct();
         theSnapshotIsNoPartOfTheState();
         bringsBackAllOfAState();
+        bringsBackAppendsThatOthersReplaced();
+        undoesOneActOfTwo();
         A.end();
     }
 
@@ -174,6 +176,7 @@ public final class HistoryTest {
         x.pass(50);
         x.reset(3);
         x.set(2, 4);
+        x.set(3, 0);
         x.setWindow(3, 1);
         x.setZone(7, true, 9);
         x.setZone(7, false, 1);
@@ -196,6 +199,66 @@ public final class HistoryTest {
         same.append(2, 5, 4);
         same.pass(7);
         A.due("and goes on as it would have", sum(x), sum(same));
+    }
+
+    private static void sendThree(AppendZones x, int first) {
+        int z = first % 8;
+        x.setZone(z, true, 9);
+        x.append(first % 4, z, first);
+        x.append(first % 4, (z + 1) % 8, first + 1);
+        x.append(first % 4, z, first + 2);
+        x.pass(7);
+        x.reset(z);
+        x.pass(7);
+    }
+
+    /** The rows behind a state are written over by others before it comes back. */
+    private static void bringsBackAppendsThatOthersReplaced() {
+        AppendZones x = new AppendZones();
+        AppendZones same = new AppendZones();
+        sendThree(x, 1);
+        sendThree(same, 1);
+        int before = sum(same);
+        x.keep();
+        AppendZones empty = new AppendZones();
+        x.undo();
+        x.undo();
+        x.undo();
+        x.undo();
+        sendThree(x, 6);
+        x.pass(9);
+        x.pass(9);
+        A.dueTrue("another state", sum(x) != before && sum(empty) != before);
+        x.restore();
+        A.due("the one that was kept", sum(x), before);
+        x.pass(20);
+        same.pass(20);
+        A.due("and goes on as it would have", sum(x), sum(same));
+    }
+
+    private static void undoesOneActOfTwo() {
+        for (int act = 0; act < 9; act++) {
+            AppendZones x = withATold();
+            x.append(1, 1, 5);
+            x.append(1, 0, 6);
+            x.pass(1);
+            x.pass(1);
+            int before = sum(x);
+            oneAct(x, act);
+            A.dueTrue("the act " + act + " changes much", sum(x) != before);
+            A.due("undo() of the act " + act, x.undo(), 3);
+            A.due("after the act " + act, sum(x), before);
+            A.due("undo() of the tick", x.undo(), 2);
+            A.due("the tick", x.count(0), 10);
+        }
+    }
+
+    private static void oneAct(AppendZones x, int act) {
+        int[] answers = {act == 0 ? x.set(3, 1) : 0, act == 1 ? x.setZone(7, false, 1) : 0,
+            act == 2 ? x.setZone(7, true, 9) : 0, act == 3 ? x.setWindow(3, 8) : 0, act == 4 ? x.append(2, 2, 2) : 0,
+            act == 5 ? x.reset(0) : 0, act == 6 ? x.finish(0) : 0, act == 7 ? x.pass(1) : 0,
+            act == 8 ? Answers.followed(x, "p1;p2") : 0};
+        A.dueTrue("the act " + act + " is done", answers[act] >= 0);
     }
 
     private static int sum(AppendZones x) {

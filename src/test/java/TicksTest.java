@@ -17,6 +17,7 @@ public final class TicksTest {
         looksByNumbers();
         looksByZones();
         theTurnIsThatBehindTheFirst();
+        theTurnIsOfThoseThatBegan();
         theOrderIsFixedAtTheBeginning();
         fewerChannelsThanAreAtWork();
         A.end();
@@ -300,6 +301,33 @@ public final class TicksTest {
         x.append(0, 2, 3);
         x.pass(1);
         A.due("nor in the manner 0", x.count(13), 5);
+    }
+
+    private static void theTurnIsOfThoseThatBegan() {
+        AppendZones x = new AppendZones();
+        x.append(0, 1, 1);
+        x.pass(9);
+        x.finish(1);
+        x.set(3, 1);
+        x.append(0, 1, 2);
+        x.append(0, 4, 3);
+        x.pass(1);
+        A.due("not of one that failed", x.count(13), 5);
+        AppendZones y = new AppendZones();
+        y.set(3, 1);
+        y.set(2, 1);
+        y.append(0, 2, 1);
+        y.append(0, 5, 2);
+        y.pass(1);
+        A.due("behind the zone 2", y.count(13), 3);
+        y.pass(1);
+        A.due("not of one that waits for a channel", y.count(13), 3);
+        y.pass(9);
+        A.due("behind the zone 5", y.count(13), 6);
+        y.set(1, 2);
+        y.append(0, 7, 3);
+        y.pass(1);
+        A.due("not of one that waits for a zone", y.count(13), 6);
     }
 
     private static void theOrderIsFixedAtTheBeginning() {
