@@ -49,7 +49,6 @@ public final class AppendZones {
     private static final int FAULT_BASE = -100;
 
     private final State now = new State();
-    private final State forecast = new State();
     private final State snapshot = new State();
     private boolean hasSnapshot = false;
     private final History history = new History();
@@ -181,8 +180,7 @@ public final class AppendZones {
         if (!now.appends.isLive(append)) {
             return NOT_POSSIBLE;
         }
-        forecast.copyFrom(now);
-        return forecast.ticksUntilTold(append);
+        return history.draft(now).ticksUntilTold(append);
     }
 
     public int would(int zone, int what) {
@@ -192,7 +190,7 @@ public final class AppendZones {
         if (what < 0 || what > 1) {
             return BAD_VALUE;
         }
-        forecast.copyFrom(now);
+        State forecast = history.draft(now);
         int number = forecast.appends.add(0, zone, 0);
         if (number == NOTHING) {
             return NONE;
@@ -976,8 +974,11 @@ public final class AppendZones {
             return slots[(oldest + kept) % SLOTS];
         }
 
-        void draft(State before) {
-            slotBehind().copyFrom(before);
+        /** Copies a state into the free slot; a draft that is never settled may be used up by a forecast. */
+        State draft(State before) {
+            State free = slotBehind();
+            free.copyFrom(before);
+            return free;
         }
 
         void takeDraftBack(State now) {

@@ -1,3 +1,5 @@
+import java.util.Arrays;
+
 /** Promises 13 to 15: undo, keep, restore. */
 public final class HistoryTest {
     private static final Answers A = new Answers("HistoryTest");
@@ -12,6 +14,9 @@ public final class HistoryTest {
         bringsBackAllOfAState();
         bringsBackAppendsThatOthersReplaced();
         undoesOneActOfTwo();
+        bringsBackPlacesGenerationsAndTheLog();
+        bringsBackTheOrderOfEvents();
+        nothingOfAnUndoneAppendIsLeft();
         A.end();
     }
 
@@ -261,22 +266,88 @@ public final class HistoryTest {
         A.dueTrue("the act " + act + " is done", answers[act] >= 0);
     }
 
+    /** The same numbers are given to other appends, told at other places, in another generation and order. */
+    private static void bringsBackPlacesGenerationsAndTheLog() {
+        AppendZones x = new AppendZones();
+        x.append(0, 0, 11);
+        x.append(0, 0, 12);
+        x.append(0, 0, 13);
+        x.pass(9);
+        x.keep();
+        A.due("back to the beginning", x.undo() + x.undo() + x.undo() + x.undo(), 3 + 2 + 1);
+        x.append(1, 3, 21);
+        x.pass(9);
+        x.reset(3);
+        x.setZone(5, true, 9);
+        x.append(1, 5, 22);
+        x.append(1, 3, 23);
+        x.pass(30);
+        int[] others = {0, 2, 1};
+        int[] placesThen = {0, 0, 0};
+        int[] generationsThen = {0, 0, 1};
+        look(x, others, placesThen, generationsThen);
+        A.due("restore()", x.restore(), 9);
+        look(x, new int[] {0, 1, 2}, new int[] {0, 1, 2}, new int[] {0, 0, 0});
+        for (int place = 0; place < 3; place++) {
+            A.due("the block " + place, x.read(0, place), 11 + place);
+        }
+        A.due("undo() of it", x.undo(), 3);
+        look(x, others, placesThen, generationsThen);
+    }
+
+    private static void look(AppendZones x, int[] log, int[] places, int[] generations) {
+        for (int i = 0; i < 3; i++) {
+            A.due("told(" + i + ")", x.told(i), log[i]);
+            A.due("the place of " + i, x.appended(i, 4), places[i]);
+            A.due("the generation of " + i, x.appended(i, 7), generations[i]);
+        }
+        A.due("no other is told", x.told(3), -5);
+    }
+
+    private static void bringsBackTheOrderOfEvents() {
+        for (int undone = 0; undone < 2; undone++) {
+            AppendZones x = new AppendZones();
+            x.append(0, 5, 1);
+            x.append(0, 3, 2);
+            x.pass(20);
+            x.append(0, 5, 3);
+            x.pass(20);
+            if (undone == 1) {
+                x.undo();
+                x.undo();
+            }
+            x.append(0, 1, 4);
+            x.pass(1);
+            A.due("the zone 5 is closed if its later append is undone", x.zone(5, 0), 1 + undone);
+            A.due("otherwise the zone 3", x.zone(3, 0), 2 - undone);
+        }
+    }
+
+    private static void nothingOfAnUndoneAppendIsLeft() {
+        AppendZones x = withATold();
+        x.append(1, 0, 5);
+        x.undo();
+        A.due("none waits", x.zone(0, 7) + x.count(8) + x.writer(1, 1), 0);
+        A.due("none fails", x.finish(0), 0);
+        A.due("none has failed", x.count(11), 0);
+        AppendZones y = new AppendZones();
+        y.append(0, 5, 1);
+        y.append(0, 3, 2);
+        y.pass(20);
+        y.keep();
+        y.append(0, 3, 3);
+        y.append(0, 5, 4);
+        y.pass(1);
+        A.due("two are at work", y.count(9), 2);
+        y.restore();
+        A.due("none is", y.count(9) + y.zone(5, 6) + y.zone(3, 6), 0);
+        y.append(1, 1, 5);
+        y.pass(1);
+        A.due("so the zone 5 makes way", y.zone(5, 0), 2);
+        A.due("and can be finished", y.finish(5), 0);
+    }
+
     private static int sum(AppendZones x) {
-        int sum = 0;
-        for (int z = 0; z < 8; z++) {
-            for (int what = 0; what < 9; what++) sum = sum * 31 + x.zone(z, what);
-            for (int p = 0; p < 16; p++) sum = sum * 31 + x.read(z, p);
-            for (int what = 0; what < 2; what++) sum = sum * 31 + x.would(z, what);
-        }
-        for (int w = 0; w < 4; w++) {
-            for (int what = 0; what < 6; what++) sum = sum * 31 + x.writer(w, what);
-        }
-        for (int a = 0; a < 8; a++) {
-            for (int what = 0; what < 8; what++) sum = sum * 31 + x.appended(a, what);
-            sum = sum * 31 + x.told(a);
-            sum = sum * 31 + x.toldIn(a);
-        }
-        for (int what = 0; what < 14; what++) sum = sum * 31 + x.count(what);
-        return sum;
+        return Arrays.hashCode(Looks.at(x));
     }
 }

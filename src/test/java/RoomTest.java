@@ -1,4 +1,9 @@
 import java.lang.management.ManagementFactory;
+import java.lang.reflect.Array;
+import java.lang.reflect.Field;
+import java.lang.reflect.Modifier;
+import java.util.IdentityHashMap;
+import java.util.Map;
 
 /** A run of calls may make little: the constructor makes the rows, and no call makes anything. */
 public final class RoomTest {
@@ -10,7 +15,7 @@ public final class RoomTest {
         return ROOM.getThreadAllocatedBytes(Thread.currentThread().getId());
     }
 
-    public static void main(String[] args) {
+    public static void main(String[] args) throws Exception {
         callAll(new AppendZones());
         made();
         long start = made();
@@ -20,7 +25,38 @@ public final class RoomTest {
         long ended = made();
         A.dueTrue("an object is made of " + (begun - start) + " bytes", begun - start < 200_000);
         A.dueTrue("its calls make " + (ended - begun) + " bytes", ended - begun < 4_000);
+        aRunOfNewObjectsFits();
         A.end();
+    }
+
+    /** The constructor is the dearest call: even if every call of a run were one, the room would do. */
+    private static void aRunOfNewObjectsFits() throws Exception {
+        Map<Object, Boolean> found = new IdentityHashMap<>();
+        long held = held(new AppendZones(), found);
+        A.dueTrue("512 times " + found.size() + " objects and arrays", 512L * found.size() <= 600_000);
+        A.dueTrue("512 times " + held + " fields and elements", 512L * held <= 7_300_000);
+    }
+
+    /** How many fields and elements an object and all that it holds have; all that it holds is put into the map. */
+    private static long held(Object object, Map<Object, Boolean> found) throws Exception {
+        if (object == null || found.put(object, true) != null) {
+            return 0;
+        }
+        long held = 0;
+        if (object.getClass().isArray()) {
+            held += Array.getLength(object);
+            for (int i = 0; i < Array.getLength(object) && object instanceof Object[]; i++) {
+                held += held(Array.get(object, i), found);
+            }
+            return held;
+        }
+        for (Field field : object.getClass().getDeclaredFields()) {
+            if (!Modifier.isStatic(field.getModifiers())) {
+                field.setAccessible(true);
+                held += 1 + (field.getType().isPrimitive() ? 0 : held(field.get(object), found));
+            }
+        }
+        return held;
     }
 
     private static void callAll(AppendZones x) {
