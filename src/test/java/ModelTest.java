@@ -4,6 +4,9 @@ import java.util.Random;
 public final class ModelTest {
     private static final int RUNS = 2000;
     private static final int CALLS = 512;
+    private static final int LEANS = 8;
+    private static final int MANY_APPENDS = 6;
+    private static final int MANY_TICKS = 7;
     private static final String SIGNS = "0123>=;rfp0123456789>=;rfp :x";
 
     private final Answers answers;
@@ -17,9 +20,10 @@ public final class ModelTest {
 
     private ModelTest(Answers answers, long seed) {
         this.answers = answers;
-        this.random = new Random(seed);
-        this.wrongness = new int[] {0, 3, 10, 40}[random.nextInt(4)];
-        this.lean = random.nextInt(6);
+        // Seeds that stand side by side begin with much the same numbers, and all runs would lean alike.
+        this.random = new Random(seed * 0x9E3779B97F4A7C15L);
+        this.lean = random.nextInt(LEANS);
+        this.wrongness = new int[] {0, 3, 10, 40}[random.nextInt(isBent() ? 2 : 4)];
         this.zones = 1 + random.nextInt(8);
     }
 
@@ -73,13 +77,36 @@ public final class ModelTest {
         return 1 + types(text.toString());
     }
 
+    /** Some runs are bent to the last append, or to the last tick, which others don't come near to. */
+    private boolean isBent() {
+        return lean >= MANY_APPENDS;
+    }
+
+    private int someKind() {
+        boolean bent = isBent() && random.nextInt(100) < 85;
+        if (bent && lean == MANY_APPENDS && model.count(7) < 198) {
+            return random.nextInt(55);
+        }
+        if (bent && lean == MANY_TICKS && model.count(0) < 9900) {
+            return 35 + random.nextInt(25);
+        }
+        return random.nextInt(100);
+    }
+
+    private int someTicks() {
+        if (lean == 1 || lean == MANY_TICKS && model.count(0) < 9900) {
+            return 99;
+        }
+        return lean == 0 ? some(99) + 1 : 1 + some(lean == MANY_TICKS ? 60 : 5);
+    }
+
     private void oneAct() {
-        int kind = random.nextInt(100);
+        int kind = someKind();
         if (kind < 40) {
             int w = some(4), z = someZone(), v = some(100);
             answers.due("append(" + w + ", " + z + ", " + v + ")", x.append(w, z, v), model.append(w, z, v));
         } else if (kind < 60) {
-            int t = lean == 0 ? some(99) + 1 : lean == 1 ? 99 : 1 + some(5);
+            int t = someTicks();
             answers.due("pass(" + t + ")", x.pass(t), model.pass(t));
         } else if (kind < 66) {
             int z = someZone();
@@ -159,10 +186,10 @@ public final class ModelTest {
         int done = 0;
         while (done < CALLS && !answers.anyWrong()) {
             int kind = random.nextInt(20);
-            if (kind == 0 && done + 40 < CALLS) {
+            if (kind == 0 && done + 40 < CALLS && (!isBent() || random.nextInt(4) == 0)) {
                 done += typeSomeText();
                 answers.due("follow()", x.follow(), model.follow());
-            } else if (kind < (lean == 3 ? 18 : 12)) {
+            } else if (kind < (lean == 3 || isBent() ? 18 : 12)) {
                 oneAct();
             } else {
                 oneQuestion();
@@ -186,12 +213,25 @@ public final class ModelTest {
 
     public static void main(String[] args) {
         Answers answers = new Answers("ModelTest");
+        int[] runsOfLean = new int[LEANS];
+        int toLastAppend = 0;
+        int toLastTick = 0;
         for (int run = 0; run < RUNS && !answers.anyWrong(); run++) {
-            new ModelTest(answers, 1000L + run).run();
+            ModelTest test = new ModelTest(answers, 1000L + run);
+            test.run();
+            runsOfLean[test.lean]++;
+            toLastAppend += test.model.count(7) == 200 ? 1 : 0;
+            toLastTick += test.model.count(0) == 9999 ? 1 : 0;
             if (answers.anyWrong()) {
                 System.out.println("ModelTest: in the run of the seed " + (1000 + run));
             }
         }
+        // What the runs came to, lest the test grows blind when its numbers are changed.
+        for (int lean = 0; lean < LEANS && !answers.anyWrong(); lean++) {
+            answers.dueTrue("runs of the lean " + lean + ": " + runsOfLean[lean], runsOfLean[lean] > RUNS / 16);
+        }
+        answers.dueTrue("runs to the last append: " + toLastAppend, answers.anyWrong() || toLastAppend > 50);
+        answers.dueTrue("runs to the last tick: " + toLastTick, answers.anyWrong() || toLastTick > 50);
         answers.end();
     }
 }
